@@ -1,0 +1,84 @@
+import java.lang.reflect.Constructor;
+import java.lang.reflect.Executable;
+import java.lang.reflect.Field;
+import java.lang.reflect.Method;
+import java.lang.reflect.Modifier;
+import java.util.Arrays;
+import java.util.Set;
+import java.util.TreeSet;
+
+/** The public face: what the document names, and no other member that can be seen from outside. */
+public final class FaceTest {
+    private static final String[] METHODS = {
+        "int target(long, int)",
+        "int alias(int)",
+        "int stands(int)",
+        "boolean add(int, int, int)",
+        "boolean change(int, long, int)",
+        "int aspect(int, int, int, int, int)",
+        "int need(int, int)",
+        "int apply(int, int, int)",
+        "int clash(int)",
+        "int state(int, int, int)",
+        "long result(int, int, int)",
+        "int worked(int, int)",
+        "int done()",
+        "int maker(int, int)",
+    };
+
+    public static void main(String[] args) {
+        Checks checks = new Checks("FaceTest");
+        checks.due("class modifiers", AspectWalk.class.getModifiers(),
+                Modifier.PUBLIC | Modifier.FINAL);
+        checks.due("methods", visibleMethods().toString(),
+                new TreeSet<>(Arrays.asList(METHODS)).toString());
+        checks.due("fields", visibleFields().toString(), "[public static final int NONE]");
+        Constructor<?>[] constructors = AspectWalk.class.getDeclaredConstructors();
+        checks.due("constructors", constructors.length, 1);
+        checks.due("constructor", constructors[0].toString(), "public AspectWalk()");
+        checks.due("NONE", AspectWalk.NONE, -1);
+        checks.due("names that are private and public", privateNamesOfPublicOnes().toString(), "[]");
+        checks.end();
+    }
+
+    private static Set<String> visibleMethods() {
+        Set<String> seen = new TreeSet<>();
+        for (Method method : AspectWalk.class.getDeclaredMethods()) {
+            if (!Modifier.isPrivate(method.getModifiers())) {
+                seen.add(method.getReturnType() + " " + method.getName() + parameters(method));
+            }
+        }
+        return seen;
+    }
+
+    private static String parameters(Executable executable) {
+        String list = Arrays.toString(executable.getParameterTypes());
+        return "(" + list.substring(1, list.length() - 1) + ")";
+    }
+
+    private static Set<String> visibleFields() {
+        Set<String> seen = new TreeSet<>();
+        for (Field field : AspectWalk.class.getDeclaredFields()) {
+            if (!Modifier.isPrivate(field.getModifiers())) {
+                seen.add(Modifier.toString(field.getModifiers()) + " " + field.getType() + " "
+                        + field.getName());
+            }
+        }
+        return seen;
+    }
+
+    private static Set<String> privateNamesOfPublicOnes() {
+        Set<String> open = new TreeSet<>();
+        Set<String> hidden = new TreeSet<>();
+        for (Method method : AspectWalk.class.getDeclaredMethods()) {
+            (Modifier.isPrivate(method.getModifiers()) ? hidden : open).add(method.getName());
+        }
+        for (Class<?> inside : AspectWalk.class.getDeclaredClasses()) {
+            for (Method method : inside.getDeclaredMethods()) {
+                hidden.add(method.getName());
+            }
+        }
+        hidden.retainAll(open);
+        return hidden;
+    }
+}
