@@ -216,8 +216,10 @@ public final class ApplyTest {
         CHECKS.due("its output", walk.maker(1, 4), -1);
         CHECKS.due("worked(1, 0)", walk.worked(1, 0), 0);
         CHECKS.due("done()", walk.done(), 2);
+        CHECKS.passed(walk, 1, 0, 9);
+        CHECKS.due("the other setting's state", walk.state(1, 0, 0), 0);
         CHECKS.passed(walk, 1, 0, 0);
-        CHECKS.due("worked(1, 1)", walk.worked(1, 1), 1);
+        CHECKS.due("worked(1, 1)", walk.worked(1, 1), 2);
     }
 
     private static void providersOfNeeds() {
@@ -320,7 +322,8 @@ public final class ApplyTest {
         }
         for (int aspect = 0; aspect < 8; aspect++) {
             walk.aspect(3, 7, 0, 0, aspect);
-            for (int other = Math.max(0, aspect - 3); other < aspect; other++) {
+            // The nearest first, so that the first way down goes through all aspects.
+            for (int other = aspect - 1; other >= 0 && other >= aspect - 3; other--) {
                 walk.need(aspect, other);
             }
         }

@@ -38,6 +38,8 @@ public final class ClashTest {
         CHECKS.due("maker(1, 9)", walk.maker(1, 9), 2);
         CHECKS.due("maker(0, 9)", walk.maker(0, 9), -1);
         CHECKS.due("maker(1, 1)", walk.maker(1, 1), -1);
+        CHECKS.due("maker(0, 10)", walk.maker(0, 10), -1);
+        CHECKS.due("maker(1, -10)", walk.maker(1, -10), -1);
         CHECKS.due("apply again", walk.apply(1, 1, 0), 1);
     }
 
