@@ -1,11 +1,11 @@
 import java.lang.reflect.Constructor;
-import java.lang.reflect.Executable;
 import java.lang.reflect.Field;
 import java.lang.reflect.Method;
 import java.lang.reflect.Modifier;
 import java.util.Arrays;
 import java.util.Set;
 import java.util.TreeSet;
+import java.util.stream.Collectors;
 
 /** The public face: what the document names, and no other member that can be seen from outside. */
 public final class FaceTest {
@@ -20,7 +20,7 @@ public final class FaceTest {
         "int apply(int, int, int)",
         "int clash(int)",
         "int state(int, int, int)",
-        "long result(int, int, int)",
+        "long result(int, int, int) throws IllegalArgumentException, IllegalStateException",
         "int worked(int, int)",
         "int done()",
         "int maker(int, int)",
@@ -37,7 +37,8 @@ public final class FaceTest {
         checks.due("constructors", constructors.length, 1);
         checks.due("constructor", constructors[0].toString(), "public AspectWalk()");
         checks.due("NONE", AspectWalk.NONE, -1);
-        checks.due("names that are private and public", privateNamesOfPublicOnes().toString(), "[]");
+        checks.due("private names that are public too", privateNamesOfPublicOnes().toString(),
+                "[]");
         checks.end();
     }
 
@@ -45,15 +46,20 @@ public final class FaceTest {
         Set<String> seen = new TreeSet<>();
         for (Method method : AspectWalk.class.getDeclaredMethods()) {
             if (!Modifier.isPrivate(method.getModifiers())) {
-                seen.add(method.getReturnType() + " " + method.getName() + parameters(method));
+                seen.add(method.getReturnType() + " " + method.getName()
+                        + "(" + names(method.getParameterTypes()) + ")" + thrown(method));
             }
         }
         return seen;
     }
 
-    private static String parameters(Executable executable) {
-        String list = Arrays.toString(executable.getParameterTypes());
-        return "(" + list.substring(1, list.length() - 1) + ")";
+    private static String thrown(Method method) {
+        Class<?>[] types = method.getExceptionTypes();
+        return types.length == 0 ? "" : " throws " + names(types);
+    }
+
+    private static String names(Class<?>[] types) {
+        return Arrays.stream(types).map(Class::getSimpleName).collect(Collectors.joining(", "));
     }
 
     private static Set<String> visibleFields() {

@@ -23,8 +23,9 @@ final class Sentences {
         hold("Promise " + number, sentence, test);
     }
 
-    /** Every word of the terms and the promises is named by a test, but for the signatures. */
+    /** Every word of these sections is named by a test, but for the signatures. */
     void dueAll() {
+        dueAllOf("What it is");
         dueAllOf("Terms");
         for (int number = 1; number <= PROMISES; number++) {
             dueAllOf("Promise " + number);

@@ -1,8 +1,9 @@
-/** All fifteen promises and the terms, sentence by sentence: each has a test of its own. */
+/** What it is, the terms and all fifteen promises: each sentence has a test of its own. */
 public final class SentencesTest {
     public static void main(String[] args) {
         Checks checks = new Checks("SentencesTest");
         Sentences sentences = new Sentences(checks);
+        OverviewSentences.hold(sentences);
         TargetSentences.hold(sentences);
         RowSentences.hold(sentences);
         AspectSentences.hold(sentences);
