@@ -10,20 +10,21 @@ import java.util.stream.Collectors;
 /** The public face: what the document names, and no other member that can be seen from outside. */
 public final class FaceTest {
     private static final String[] METHODS = {
-        "int target(long, int)",
-        "int alias(int)",
-        "int stands(int)",
-        "boolean add(int, int, int)",
-        "boolean change(int, long, int)",
-        "int aspect(int, int, int, int, int)",
-        "int need(int, int)",
-        "int apply(int, int, int)",
-        "int clash(int)",
-        "int state(int, int, int)",
-        "long result(int, int, int) throws IllegalArgumentException, IllegalStateException",
-        "int worked(int, int)",
-        "int done()",
-        "int maker(int, int)",
+        "public int target(long, int)",
+        "public int alias(int)",
+        "public int stands(int)",
+        "public boolean add(int, int, int)",
+        "public boolean change(int, long, int)",
+        "public int aspect(int, int, int, int, int)",
+        "public int need(int, int)",
+        "public int apply(int, int, int)",
+        "public int clash(int)",
+        "public int state(int, int, int)",
+        "public long result(int, int, int) throws IllegalArgumentException, "
+            + "IllegalStateException",
+        "public int worked(int, int)",
+        "public int done()",
+        "public int maker(int, int)",
     };
 
     public static void main(String[] args) {
@@ -46,8 +47,9 @@ public final class FaceTest {
         Set<String> seen = new TreeSet<>();
         for (Method method : AspectWalk.class.getDeclaredMethods()) {
             if (!Modifier.isPrivate(method.getModifiers())) {
-                seen.add(method.getReturnType() + " " + method.getName()
-                        + "(" + names(method.getParameterTypes()) + ")" + thrown(method));
+                seen.add(Modifier.toString(method.getModifiers()) + " " + method.getReturnType()
+                        + " " + method.getName() + "(" + names(method.getParameterTypes()) + ")"
+                        + thrown(method));
             }
         }
         return seen;
